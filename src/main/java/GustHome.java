@@ -52,7 +52,7 @@ public final class GustHome {
         judge = asked;
         school = lessons;
         calendar = new Calendar(rooms, asked, lessons);
-        planner = new Planner(asked);
+        planner = new Planner(rooms, asked);
         winds = new Winds();
         houses = new Houses();
     }
@@ -189,7 +189,7 @@ public final class GustHome {
         if (n < 1 || n > LONGEST_TEXT || n > tape.size) {
             return NONE;
         }
-        int answer = reader.readLaw(n);
+        int answer = reader.readText(n, true);
         tape.empty();
         if (answer > 0) {
             reader.draft = judge.exchangeLaw(reader.draft);
@@ -201,7 +201,7 @@ public final class GustHome {
         if (n < 1 || n > LONGEST_TEXT || n > tape.size) {
             return NONE;
         }
-        int answer = reader.readRules(n);
+        int answer = reader.readText(n, false);
         tape.empty();
         if (answer > 0) {
             reader.draft = judge.exchangeRules(reader.draft);
@@ -346,7 +346,7 @@ public final class GustHome {
         if (what != TOTAL && !isIn(gusts, what)) {
             return NONE;
         }
-        boolean found = planner.lodge(now, gusts, wards, this.wards);
+        boolean found = planner.lodge(now, gusts, wards);
         if (!found) {
             return NOTHING;
         }
@@ -492,6 +492,11 @@ public final class GustHome {
 
     private static boolean isIn(int bits, int x) {
         return x >= 0 && x < 31 && (bits >> x & 1) != 0;
+    }
+
+    /** How many of the bits stand below one of them. */
+    private static int placeIn(int bits, int x) {
+        return x >= 0 && x < 31 ? Integer.bitCount(bits & (1 << x) - 1) : 0;
     }
 
     private boolean chosen(int gusts, int least, int most) {
@@ -829,6 +834,7 @@ public final class GustHome {
     /** Reads the three kinds of text from the tape; a text with a fault leaves its draft to be overwritten. */
     private static final class Reader {
         private static final String LETTERS = "sqthdwoplanvuzm";
+        private static final int MOST_RULES = 12;
         private static final int DEEPEST = 6;
         private static final int DEEPEST_MONTHS = 2;
 
@@ -845,22 +851,15 @@ public final class GustHome {
             this.tape = tape;
         }
 
-        int readLaw(int n) {
+        /** The law, or else rules, into the draft: how many, or a fault. */
+        int readText(int n, boolean isLaw) {
             begin(n);
             for (int k = 0; k < LONGEST_TEXT; k++) {
-                readClause();
-                if (at >= end) {
-                    break;
+                if (isLaw) {
+                    readClause();
+                } else {
+                    readRule();
                 }
-                expect(';');
-            }
-            return fault != 0 ? fault : draft.clauses;
-        }
-
-        int readRules(int n) {
-            begin(n);
-            for (int k = 0; k < LONGEST_TEXT; k++) {
-                readRule();
                 if (at >= end) {
                     break;
                 }
@@ -937,7 +936,7 @@ public final class GustHome {
         }
 
         private void readRule() {
-            if (here() == '(' && draft.clauses >= 12) {
+            if (here() == '(' && draft.clauses >= MOST_RULES) {
                 fail(4, at);
                 return;
             }
@@ -1409,6 +1408,7 @@ public final class GustHome {
         private static final int MOST = 8;
         private static final int UNREACHED = 1000;
 
+        private final Ward[] wards;
         private final Judge judge;
         /** Who is asked, and whom or what each of them may get, by rising numbers. */
         private final int[] seekers = new int[MOST];
@@ -1426,11 +1426,12 @@ public final class GustHome {
         /** By who has come (as bits of places), times MOST, and the last of them: in how many ways the ring ends. */
         private final int[] ways = new int[MOST << MOST];
 
-        Planner(Judge judge) {
+        Planner(Ward[] wards, Judge judge) {
+            this.wards = wards;
             this.judge = judge;
         }
 
-        boolean lodge(State s, int gusts, int places, Ward[] wards) {
+        boolean lodge(State s, int gusts, int places) {
             size = spread(gusts, seekers);
             choiceCount = spread(places, choices);
             learnOdds(s);
@@ -1460,7 +1461,7 @@ public final class GustHome {
             if (!isIn(asked, who)) {
                 return NONE;
             }
-            int i = Integer.bitCount(asked & (1 << who) - 1);
+            int i = placeIn(asked, who);
             if (i >= MOST || bestRow[i] < 0 || bestRow[i] >= MOST) {
                 return NONE;
             }
@@ -1626,7 +1627,7 @@ public final class GustHome {
             if (!isIn(gusts, g)) {
                 return NONE;
             }
-            int i = Integer.bitCount(gusts & (1 << g) - 1);
+            int i = placeIn(gusts, g);
             return i < MOST ? bestRow[i] : NONE;
         }
 
