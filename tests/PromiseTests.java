@@ -230,6 +230,13 @@ public final class PromiseTests {
         due(10, "every letter of a factor", law(x, "bs+q+t+h+d+w+m(1=1);x(o=p);e(l=1);ia+n+w(1=1)"), 4);
         due(10, "sixteen", law(x, times(16, "x(1=1)", ";")), 16);
         due(10, "240 bytes", law(x, "f" + times(116, "1+", "") + "12(1=1)"), 1);
+        due(10, "60 tests", law(x, "x(" + times(59, "1=1", "&") + ")"), 1);
+        x.gust(0, 1, 1, 1, 1);
+        x.gust(1, 1, 1, 1, 1);
+        due(18, "60 tests hold", x.quarrel(0, 1), 1);
+        due(10, "60 parts", law(x, "x(" + times(58, "1=2", "|") + "|s=1)"), 1);
+        due(18, "the last of 60 parts holds", x.quarrel(0, 1), 1);
+        due(10, "one byte", law(x, "f"), -1001);
         due(10, "a fault leaves it", law(x, "f1(1=1);"), -1008);
         due(10, "clauses", x.count(5), 1);
         due(10, "empty after a fault", x.count(7), 0);
@@ -294,6 +301,9 @@ public final class PromiseTests {
         due(11, "thirteen", rules(x, times(13, "(1=1)", ";")), -4072);
         due(11, "what can't stand there", rules(x, times(12, "(1=1)", ";") + ";x"), -1072);
         due(11, "count", x.count(6), 12);
+        due(11, "240 bytes", rules(x, "(" + times(117, "1+", "") + "10<9)"), 1);
+        due(11, "one byte", rules(x, "("), -1001);
+        due(11, "all of the tape", rules(x, "(1=1);(1=1);(11=11)."), -1019);
         put(x, "(n<3)");
         due(11, "more than the tape has", x.rules(21), -1);
         due(11, "the tape stays", x.count(7), 20);
@@ -404,6 +414,10 @@ public final class PromiseTests {
         due(16, "a of a nurse that is not told", x.wardIs(3, 6), -2);
         due(16, "a of one that is", x.wardIs(4, 6), 0);
         table(x, 4, "H");
+        rules(x, "(!w=0|a=8&n=1&v=9)");
+        x.gust(0, 9, 0, 0, 0);
+        x.ward(0, 9, 0, 2);
+        due(16, "ward 0, gust 0, nurse 2", x.wardIs(0, 6), -2);
         law(x, "e(l=7&s=17&h=2&m=5)");
         due(13, "l in e", x.tried(1, 0), 1);
         law(x, "e(o=0&p=0&a=0&n=0&v=0&u=0&z=0)");
@@ -459,6 +473,13 @@ public final class PromiseTests {
         law(x, "gs(1=1)");
         x.months(1);
         due(13, "20 at most", x.gustIs(0, 0), 30);
+        GustHome y = new GustHome();
+        y.gust(0, 50, 0, 0, 0);
+        y.months(37);
+        law(y, "bm+5(1=1)");
+        rules(y, "(m=1)");
+        due(13, "m through 12, in the law", y.tried(1, 1), 6);
+        due(16, "m through 12, in rules", y.wardIs(0, 6), -2);
         law(x, "g5(m=1);g1(1=1)");
         x.months(1);
         due(13, "m is the month that goes by", x.gustIs(0, 0), 25);
@@ -561,6 +582,9 @@ public final class PromiseTests {
         due(13, "temper 9 at most", x.gustIs(0, 2), 9);
         due(13, "temper one more", x.gustIs(1, 2), 1);
         due(13, "temper of one aside", x.gustIs(3, 2), 0);
+        x.gust(1, 20, 9, 0, 0);
+        x.months(1);
+        due(13, "temper 9 at most, of the other, too", x.gustIs(1, 2), 9);
         law(x, "x(1=2);x(1=1)");
         due(18, "any x will do", x.quarrel(1, 2), 1);
         // each two asked when they come: 0 and 1 make 1 angry, so 1 and 2 quarrel
@@ -766,6 +790,7 @@ public final class PromiseTests {
         due(19, "no wards", x.housed(3, 0, 20), -1);
         due(19, "four wards", x.housed(3, 15, 20), -1);
         due(19, "no such ward", x.housed(3, 65, 20), -1);
+        due(19, "no such ward", x.housed(3, 64, 20), -1);
         due(19, "below 0", x.housed(3, Integer.MIN_VALUE, 20), -1);
         // asked as they are now: in ward 0, not in the one where they would be
         law(x, "x(w=0&s+o=3)");
@@ -829,6 +854,17 @@ public final class PromiseTests {
         due(21, "three are too many: all stay", x.leaving(15, 20), 1);
         due(21, "three are too many: all stay", x.leaving(13, 20), 0);
         due(21, "one of them alone", x.leaving(8, 20), 1);
+        GustHome y = new GustHome();
+        for (int g = 0; g < 6; g++) {
+            y.gust(g + 6, 10 + g, 0, 0, g);
+            y.name(g + 6, 7);
+        }
+        y.wind(2, 7, 63);
+        due(21, "six", y.leaving(63 << 6, 20), 5);
+        due(21, "six, most strength", y.leaving(63 << 6, 21), 63);
+        due(21, "six, who stays", y.leaving(63 << 6, 8), 4);
+        due(22, "six", y.letGo(63 << 6), 59 << 6);
+        due(22, "six", y.count(3), 4 << 6);
         due(21, "what is not of them", x.leaving(7, 3), -1);
         due(21, "what 22", x.leaving(7, 22), -1);
         due(21, "what -1", x.leaving(7, -1), -1);
@@ -955,6 +991,18 @@ public final class PromiseTests {
         due(27, "no gusts", x.placed(0, 0), -1);
         due(27, "seven", x.placed(127, 0), -1);
         due(27, "not told", x.placed(129, 0), -1);
+        due(27, "six", x.placed(63, 0), 4);
+        due(27, "six", x.placed(63, 2), 1);
+        due(27, "six", x.placed(63, 5), -2);
+        put(x, 4, 0, 1, 255, 255, 255);
+        due(28, "six", x.fair(63), 0);
+        put(x, 0, 4, 1, 255, 255, 255);
+        due(28, "six", x.fair(63), 1);
+        x.house(0, 98, 128 + 64);
+        x.habit(3, 6, true);
+        x.habit(3, 7, true);
+        due(27, "two habits rather than one", x.placed(59, 3), 0);
+        x.house(0, 98, 0);
         // fair: houses 1, 4, 0 by liking; gusts 2, 1, 3 are liked by 1
         put(x, 4, 1, 0);
         due(28, "as placed", x.fair(14), 0);
@@ -1022,6 +1070,10 @@ public final class PromiseTests {
         put(x, 10, 20, 30);
         int[][] bad = {{0, 5, 10, 0}, {9, 5, 10, 0}, {1, -1, 10, 0}, {1, 100, 10, 0}, {1, 5, -1, 0}, {1, 5, 256, 0}, {1, 5, 10, -1}, {1, 5, 10, 100}, {7, 5, 10, 0}};
         for (int[] b : bad) due(29, "escaped of " + java.util.Arrays.toString(b), x.escaped(b[0], b[1], b[2], b[3]), -1);
+        GustHome y = new GustHome();
+        put(y, times(40, "A", ""));
+        due(29, "nine", y.escaped(9, 5, 10, 0), -1);
+        due(29, "the tape stays", y.count(7), 40);
         due(29, "the tape stays", x.count(7), 20);
         due(29, "20 bytes hold six", x.escaped(6, 99, 10, 0), -3);
         due(29, "empty then", x.count(7), 0);
