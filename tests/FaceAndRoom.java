@@ -134,14 +134,6 @@ public final class FaceAndRoom {
         }
     }
 
-    private static void put(GustHome x, String t) {
-        for (int k = 0; k < t.length(); k += 20) {
-            int[] v = new int[5];
-            for (int i = 0; i < 20; i++) v[i / 4] = v[i / 4] << 8 | (k + i < t.length() ? t.charAt(k + i) : ' ');
-            x.feed(v[0], v[1], v[2], v[3], v[4]);
-        }
-    }
-
     private static GustHome full() {
         GustHome x = new GustHome();
         for (int g = 0; g < 12; g++) {
@@ -156,13 +148,13 @@ public final class FaceAndRoom {
         for (int k = 0; k < 10; k++) x.home(k, 37 * k % 1024);
         for (int w = 0; w < 6; w++) {
             x.ward(w, 9, 5, w % 5);
-            put(x, "2(A2(B.C)D)");
+            Texts.put(x, "2(A2(B.C)D)");
             x.timetable(w, 11);
         }
         String law = "f1(1=1);g1(1=1);b1(1=1);i1(1=1);e(1=1);x(1+[2-[3*[4+[5-s]]]]>200|s+o>99999|!(!(s=o&t=9))|q=p&t>3|s*s+o*o+t*t<0)";
-        put(x, law);
+        Texts.put(x, law);
         must(x.law(law.length()) == 6, "the law of the full object");
-        put(x, "(n<9);(v<10)");
+        Texts.put(x, "(n<9);(v<10)");
         x.rules(12);
         x.keep();
         return x;

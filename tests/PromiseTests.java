@@ -55,30 +55,12 @@ public final class PromiseTests {
 
     // ---- helpers ----
 
-    /** Puts signs on the tape, twenty at a time, with blanks behind the last ones. */
-    private static void put(GustHome x, String t) {
-        for (int k = 0; k < t.length(); k += 20) {
-            int[] v = new int[5];
-            for (int i = 0; i < 20; i++) {
-                char c = k + i < t.length() ? t.charAt(k + i) : ' ';
-                v[i / 4] = v[i / 4] << 8 | c;
-            }
-            x.feed(v[0], v[1], v[2], v[3], v[4]);
-        }
-    }
-    private static void put(GustHome x, int... bytes) {
-        StringBuilder t = new StringBuilder();
-        for (int b : bytes) t.append((char) b);
-        put(x, t.toString());
-    }
-    private static int law(GustHome x, String t) { put(x, t); return x.law(t.length()); }
-    private static int rules(GustHome x, String t) { put(x, t); return x.rules(t.length()); }
-    private static int table(GustHome x, int w, String t) { put(x, t); return x.timetable(w, t.length()); }
-    private static String times(int n, String t, String between) {
-        StringBuilder s = new StringBuilder();
-        for (int k = 0; k < n; k++) s.append(k > 0 ? between : "").append(t);
-        return s.toString();
-    }
+    private static void put(GustHome x, String t) { Texts.put(x, t); }
+    private static void put(GustHome x, int... bytes) { Texts.put(x, bytes); }
+    private static int law(GustHome x, String t) { return Texts.law(x, t); }
+    private static int rules(GustHome x, String t) { return Texts.rules(x, t); }
+    private static int table(GustHome x, int w, String t) { return Texts.table(x, w, t); }
+    private static String times(int n, String t, String between) { return Texts.times(n, t, between); }
     /** The answer of an E, by how many toys one gust breaks (0 to 20). */
     private static int reckon(String e) {
         GustHome x = new GustHome();
