@@ -236,6 +236,14 @@ public final class PromisesBySentence {
         due("empty then", x.count(7), 0);
         due("in place of it", law(x, "e(1=1)"), 1);
         due("clauses", x.count(5), 1);
+        GustHome two = gusts(1, 1);
+        for (String t : new String[] {"b1(1=1);x(1=1);b1(1=1)", "b1(1=1)", "b2(1=1)", "b3(1=1);x(1=1);y", "b4(1=1)"}) {
+            law(two, t);
+            due("quarrels by the one in place after " + t, two.quarrel(0, 1), t.contains("x") && !t.endsWith("y") ? 1 : 0);
+        }
+        due("toys by the one in place", two.tried(1, 1), 8);
+        for (String t : new String[] {"x(1=2);x(1=1)", "b1(1=1)", "b1+1(1=1)"}) law(two, t);
+        due("nothing is left of a longer one", two.quarrel(0, 1), 0);
         due("16", law(x, Texts.times(16, "e(1=1)", ";")), 16);
         due("240 bytes", law(x, "f" + Texts.times(116, "1+", "") + "12(1=1)"), 1);
         due("one byte", law(x, "f"), -1001);
@@ -274,6 +282,10 @@ public final class PromisesBySentence {
         due("the second does not hold", x.wardIs(0, 6), 1);
         due("in place of them", rules(x, "(1=1)"), 1);
         due("all hold", x.wardIs(0, 6), -2);
+        for (String t : new String[] {"(1=1);(1=1);(1=2)", "(1=1)", "(1=1);(1=1)", "(1=1);(1=2);y", "(2=2)"}) {
+            rules(x, t);
+            due("the first broken after " + t, x.wardIs(5, 6), t.length() == 17 ? 2 : -2);
+        }
         due("12", rules(x, Texts.times(12, "(1=1)", ";")), 12);
         due("240 bytes", rules(x, "(" + Texts.times(117, "1+", "") + "10<9)"), 1);
         says(11, "a FAULT;");

@@ -114,6 +114,9 @@ public final class TermsBySentence {
         says(10, "THE LAW: a TEXT of at most 240 bytes, no blanks (none at first)");
         due("240 bytes", law("f" + times(116, "1+", "") + "12(1=1)"), 1);
         due("241 bytes", law("f" + times(116, "1+", "") + "123(1=1)"), -1);
+        GustHome often = oneGust(40);
+        for (int k = 0; k < 5; k++) law(often, "b" + times(116, "0+", "") + "1" + k + "(1=1)");
+        due("240 bytes five times over", often.tried(1, 1), 14);
         String[] blanks = {" f1(1=1)", "f 1(1=1)", "f1 (1=1)", "f1( 1=1)", "f1(1 =1)", "f1(1= 1)", "f1(1=1 )", "f1(1=1) ", "f1(1=1); x(1=1)"};
         int[] places = {0, 1, 2, 3, 4, 5, 6, 7, 8};
         for (int k = 0; k < blanks.length; k++) due("blank in " + blanks[k], law(blanks[k]), -1000 - places[k]);
@@ -185,7 +188,7 @@ public final class TermsBySentence {
         String[] i = {"0-1", "0", "1", "10", "11", "99999"};
         int[] to10 = {0, 0, 1, 10, 10, 10};
         for (int k = 0; k < i.length; k++) due("i" + i[k], tenths(i[k]), to10[k]);
-        says(10, "e one learns a lesson, x two GUSTS quarrel (of e, x any will do; without one of them none does)");
+        says(10, "e one learns a lesson, x two GUSTS quarrel (of e, x any will do;");
         String[] laws = {"b1(1=1)", "e(1=2);x(1=2)", "e(1=1);x(1=1)", "e(1=2);x(1=2);e(1=1);x(1=1)", "e(1=1);x(1=1);e(1=2);x(1=2)", "e(1/0=0);x(1/0=0);x(1=1);e(1=1)"};
         int[] holds = {0, 0, 1, 1, 1, 1};
         for (int k = 0; k < laws.length; k++) {
@@ -198,18 +201,30 @@ public final class TermsBySentence {
             due("learns by " + laws[k], x.tried(1, 0), holds[k]);
             due("quarrels by " + laws[k], x.quarrel(0, 1), holds[k]);
         }
-        GustHome x = oneGust(40);
-        x.gust(1, 40, 4, 3, 1);
-        due("quarrels without a law", x.quarrel(0, 1), 0);
-        says(10, "of the first CLAUSE of f, g, b, i whose C holds the E (beyond its bounds the bound; none: 0).");
-        String[] of = {"b3(1=2);b4(1=1);b5(1=1)", "b3(1=1);b4(1=1)", "b99(1=1);b4(1=1)", "b0-9(1=1);b4(1=1)", "b3(1=2)", "f3(1=1)", "x(1=1);b7(1=1)"};
-        int[] toys = {4, 3, 20, 0, 0, 0, 7};
-        for (int k = 0; k < of.length; k++) {
-            x = oneGust(40);
-            law(x, of[k]);
-            due("toys by " + of[k], x.tried(1, 1), toys[k]);
-        }
+        says(10, "without one of them none does)");
+        GustHome x = furnished(true);
+        due("quarrels without a law", x.quarrel(3, 8), 0);
+        due("learns without a law", x.tried(1, 0), 0);
+        law(x, "x(1=1)");
+        due("learns without an e", x.tried(1, 0), 0);
+        law(x, "e(1=1)");
+        due("quarrels without an x", x.quarrel(3, 8), 0);
+        says(10, "of the first CLAUSE of f, g, b, i whose C holds the E");
+        toysBy("b3(1=2);b4(1=1);b5(1=1)", 4);
+        toysBy("b3(1=1);b4(1=1)", 3);
+        toysBy("f9(1=1);g9(1=1);i9(1=1);b7(1=1)", 7);
+        toysBy(times(15, "b3(1=2)", ";") + ";b5(1=1)", 5);
+        says(10, "(beyond its bounds the bound; none: 0).");
+        toysBy("b99(1=1);b4(1=1)", 20);
+        toysBy("b0-9(1=1);b4(1=1)", 0);
+        toysBy("b3(1=2)", 0);
+        toysBy("f3(1=1)", 0);
         due("toys without a law", oneGust(40).tried(1, 1), 0);
+    }
+    private static void toysBy(String law, int toys) {
+        GustHome x = oneGust(40);
+        law(x, law);
+        due("toys by " + law, x.tried(1, 1), toys);
     }
 
     private static void conditions() {
@@ -323,6 +338,13 @@ public final class TermsBySentence {
             + "w its WARD (of a GUST, in f, g, b, e, x; w in i and in rules, too)");
         for (String c : new String[] {"s=17", "q=5", "t=6", "h=2", "d=7"}) toldIn("fgbex", c);
         toldIn("fgbexir", "w=4");
+        for (int w = 0; w < 6; w++) {
+            GustHome x = new GustHome();
+            x.gust(0, 1, 1, w, 1);
+            x.ward(w, 9, 9 - w, -1);
+            law(x, "bd+1(w=" + w + ")");
+            due("d and w of ward " + w, x.tried(1, 1), 10 - w);
+        }
         for (int none : new int[] {0, 1}) {
             GustHome x = oneGust(0);
             if (none == 0) x.name(0, 7);
@@ -346,6 +368,14 @@ public final class TermsBySentence {
         }
         says(10, "a the ASTHMA, n how many GUSTS are in the WARD (in i, in rules)");
         toldIn("ir", "a=8&n=1");
+        for (int w = 0; w < 6; w++) {
+            GustHome y = new GustHome();
+            y.gust(0, 1, 1, w, 1);
+            y.nurse(4, 9);
+            y.ward(w, 9, 0, 4);
+            rules(y, "(w=" + w + "&a=9&n=1|!w=" + w + "&a=0&n=0)");
+            for (int k = 0; k < 6; k++) due("a and n of ward " + k + " in rules", y.wardIs(k, 6), -2);
+        }
         for (char k : "ir".toCharArray()) due("n of two in " + k, holdsIn(furnished(true), k, "n=2"), 1);
         GustHome x = furnished(true);
         for (int g = 0; g < 12; g++) x.gust(g, 1, 1, 4, 1);
@@ -383,25 +413,27 @@ public final class TermsBySentence {
         due("others in x", holdsIn(furnished(true), 'x', "l=0&a=0&n=0&v=0&u=0&z=0"), 1);
         due("others in i", holdsIn(furnished(false), 'i', "s=0&q=0&t=0&h=0&d=0&o=0&p=0&l=0&v=0&u=0&z=0"), 1);
         due("others in rules", holdsIn(furnished(false), 'r', "s=0&q=0&t=0&h=0&d=0&o=0&p=0&l=0"), 1);
-        x = furnished(true);
-        law(x, "b1(1=1);x(1=1)");
-        x.months(1);
-        due("u, z in b after toys and whistles", holdsIn(x, 'b', "u+z+v+n+a=0"), 2);
+        for (char c : "fgbexi".toCharArray()) {
+            x = furnished(true);
+            law(x, "b1(1=1);x(1=1)");
+            x.months(1);
+            due("u, v, z in " + c + " after toys and whistles", holdsIn(x, c, "u=0&v=0&z=0"), c == 'b' || c == 'e' ? 2 : 1);
+        }
     }
 
     private static void refused() {
-        says(10, "what is divided by 0 is REFUSED: then a C does not hold, an E is 0.");
-        String[] e = {"7/0", "7%0", "0/0", "7+1/0", "7+0*[1/0]", "7/[s-40]", "1/0+7", "7%[t-4]"};
-        for (String k : e) due("E " + k, broken(k), 0);
+        says(10, "what is divided by 0 is REFUSED: then a C does not hold,");
         String[] c = {"1/0=0", "1%0=0", "!1/0=0", "!(1/0=0)", "1/0=0|1=1", "(1/0=0)|1=1", "1=1&0/0=0", "1=1/0", "1<1/[s-40]|1=1"};
         for (String k : c) due("C " + k, asks(k), 0);
         GustHome x = oneGust(40);
         law(x, "b3(1/0=0);b4(1=1)");
         due("the C of the next clause", x.tried(1, 1), 4);
-        law(x, "b1/0(1=1);b4(1=1)");
-        due("an E that is refused is its clause's", x.tried(1, 1), 0);
         rules(x, "(1=1);(1%0=0)");
         due("a rule", x.wardIs(0, 6), 1);
+        says(10, "an E is 0.");
+        String[] e = {"7/0", "7%0", "0/0", "7+1/0", "7+0*[1/0]", "7/[s-40]", "1/0+7", "7%[t-4]"};
+        for (String k : e) due("E " + k, broken(k), 0);
+        toysBy("b1/0(1=1);b4(1=1)", 0);
         says(10, "Of a C as much is asked, from the left, as matters.");
         String[] asked = {"1=1|1/0=0", "1=2&1/0=0|1=1", "(1=1|1/0=0)&2=2", "!(1=2&1/0=0)", "1=1&1=2&1/0=0|2=2", "1=2|1=1|1/0=0", "!(1=1|1/0=0)|1=1", "1=2&(1/0=0|1=1)|1=1"};
         for (String k : asked) due("C " + k, asks(k), 1);
@@ -441,18 +473,40 @@ public final class TermsBySentence {
         for (char c : "(;a 1".toCharArray()) due("no letter " + c, law(full + c), -1112);
         due("the end", law(full), -1112);
         due("wrong behind it", law(full + "x;"), -4112);
-        says(10, "5 a seventh of ( [ ! that are open in one another, at it "
-            + "(the ( of the CLAUSE counts; a ! is open till its TEST ends; the E of a CLAUSE stands ahead of it).");
-        String[] six = {"x((((((1=1))))))", "x([[[[[1]]]]]=1)", "x(1=[[[[[1]]]]])", "x(!!!!!1=1)", "x(!(!([1]=1)))", "f[[[[[[1]]]]]](1=1)",
-            "f[[[[[[1]]]]]]((((((1=1))))))", "x(!!!!!1=1&!!!!!1=1|!!!!!1=1)", "x(!!!!!1=1&(((((1=1)))))&[[[[[1]]]]]=[[[[[1]]]]])", "x(!([[[1]]]=1))",
-            "x(!(1=1)&((((1=1)))))", "f[1]+[1]+[1]+[1]+[1]+[1]+[1](1=1)"};
+        says(10, "5 a seventh of ( [ ! that are open in one another, at it");
+        String[] six = {"x(!(!([1]=1)))", "x(!([[[1]]]=1))", "x(!(1=1)&((((1=1)))))", "x(((((!1=1)))))", "x(1=1&(((([1]=1)))))"};
         for (String t : six) due(t, law(t), 1);
-        String[] seven = {"x(((((((1=1)))))))", "x([[[[[[1]]]]]]=1)", "x(1=[[[[[[1]]]]]])", "x(!!!!!!1=1)", "x(!(!([[1]]=1)))", "f[[[[[[[1]]]]]]](1=1)",
-            "f[[[[[[1]]]]]](((((((1=1)))))))", "x(!!!!![1]=1)", "x(!!!!!1=[1])", "x(!!!!!(1=1))", "x(((((!!1=1)))))", "x(1=1&((((([1]=1))))))"};
-        int[] places = {7, 7, 9, 7, 7, 7, 20, 7, 9, 7, 7, 11};
+        String[] seven = {"x(!(!([[1]]=1)))", "x(!([[[[1]]]]=1))", "x(((((!!1=1)))))", "x(1=1&((((([1]=1))))))"};
+        int[] places = {7, 7, 7, 11};
         for (int k = 0; k < seven.length; k++) due(seven[k], law(seven[k]), -5000 - places[k]);
+        due("one behind the other", law("f" + times(7, "[1]", "+") + "(" + times(7, "(1=1)", "&") + ")"), 1);
         due("what can't stand there is 1", law("x([[[[[("), -1007);
         due("what can't stand there is 1", law("x(!!!!!)"), -1007);
+        openSigns();
+    }
+
+    private static void openSigns() {
+        says(10, "(the ( of the CLAUSE counts;");
+        due("five ( in it", law("x((((((1=1))))))"), 1);
+        due("six ( in it", law("x(((((((1=1)))))))"), -5007);
+        due("five [ in it", law("x([[[[[1]]]]]=1)"), 1);
+        due("six [ in it", law("x([[[[[[1]]]]]]=1)"), -5007);
+        due("five [ on the right", law("x(1=[[[[[1]]]]])"), 1);
+        due("six [ on the right", law("x(1=[[[[[[1]]]]]])"), -5009);
+        says(10, "a ! is open till its TEST ends;");
+        due("five !", law("x(!!!!!1=1)"), 1);
+        due("six !", law("x(!!!!!!1=1)"), -5007);
+        due("five ! in each test", law("x(!!!!!1=1&!!!!!1=1|!!!!!1=1)"), 1);
+        due("five !, then five others", law("x(!!!!!1=1&(((((1=1)))))&[[[[[1]]]]]=[[[[[1]]]]])"), 1);
+        due("open in the E on the left", law("x(!!!!![1]=1)"), -5007);
+        due("open in the E on the right", law("x(!!!!!1=[1])"), -5009);
+        due("open in the (C)", law("x(!!!!!(1=1))"), -5007);
+        due("open till the ) of its (C)", law("x(!(1=1&[[[[1]]]]=1))"), -5011);
+        says(10, "the E of a CLAUSE stands ahead of it).");
+        due("six [ in it", law("f[[[[[[1]]]]]](1=1)"), 1);
+        due("seven [ in it", law("f[[[[[[[1]]]]]]](1=1)"), -5007);
+        due("six [ in it, six ( behind", law("f[[[[[[1]]]]]]((((((1=1))))))"), 1);
+        due("six [ in it, seven ( behind", law("f[[[[[[1]]]]]](((((((1=1)))))))"), -5020);
     }
 
     private static void ruleTexts() {
@@ -460,6 +514,11 @@ public final class TermsBySentence {
         due("none at first", new GustHome().count(6), 0);
         due("240 bytes", rules("(" + times(117, "1+", "") + "10<9)"), 1);
         due("241 bytes", rules("(" + times(117, "1+", "") + "100<9)"), -1);
+        GustHome often = new GustHome();
+        for (int k = 0; k < 5; k++) rules(often, "(" + times(117, "0+", "") + "1" + k + "<" + (9 - k) + ")");
+        due("240 bytes five times over, which does not hold", often.wardIs(0, 6), 0);
+        for (int k = 0; k < 5; k++) rules(often, "(" + times(117, "0+", "") + "1" + k + ">" + (9 - k) + ")");
+        due("240 bytes five times over, which holds", often.wardIs(0, 6), -2);
         due("a blank", rules("(1=1) "), -1005);
         says(11, "(C), 12 at most, with a ; between two:");
         due("one", rules("(1=1)"), 1);
@@ -572,15 +631,18 @@ public final class TermsBySentence {
         due("three with digits", table("2(2(2(A)))"), -5005);
         due("the third of two", table("((A)(B(C)))"), -5006);
         due("at the end", table("((("), -5002);
-        says(12, "6 more than 48, at the first byte of what (or its digit) by which they are (asked when it ends; of an inner one first).");
+        says(12, "6 more than 48, at the first byte of what (or its digit) by which they are");
         due("a letter", table("9A9A9A9A9A3BC"), -6012);
         due("a dot", table("9A9A9A9A9A3B."), -6012);
         due("a digit", table("9A9A9A9A9A4B"), -6010);
         due("a (", table("9A9A9A9A9A(BCDE)"), -6014);
         due("the digit of a (", table("A9(6B)"), -6001);
+        says(12, "(asked when it ends;");
         due("a digit and the end", table("9A9A9A9A9A4"), -1011);
         due("a digit and no month", table("9A9A9A9A9A4K"), -1011);
         due("brackets that do not end", table("A9(6B"), -1005);
+        due("brackets that end", table("A9(6B)"), -6001);
+        says(12, "of an inner one first).");
         due("an inner one", table("2(9A9A9A9A9A9A)"), -6012);
         due("an inner one in brackets", table("3(A7(7B))"), -6003);
         due("of both the inner one", table("9(9A9A9A9A9A9A9A"), -6012);
@@ -624,27 +686,38 @@ public final class TermsBySentence {
             due -= month % 12 == 11 || month % 12 < 2 ? 3 : 0;
             due("strength after month " + month, x.gustIs(0, 0), due);
         }
+        says(13, "is weaker by g (0 at least).");
         due("7 less 3 often", x.gustIs(11, 0), 0);
         x = oneGust(3);
         law(x, "g3(1=1)");
         due("3 less 3", x.tried(1, 10), 0);
         law(x, "g4(1=1)");
         due("3 less 4", x.tried(1, 10), 0);
-        says(13, "(2) WARDS, by numbers: one without a told NURSE that is not ILL is neither fed nor taught (its TIMETABLE goes on all the same).");
+        says(13, "(2) WARDS, by numbers: one without a told NURSE that is not ILL is neither fed nor taught");
+        String[] who = {"no nurse", "one not told", "one that is ill", "one that is well"};
         for (int k = 0; k < 4; k++) {
-            x = oneGust(40);
-            table(x, 2, "AB");
-            x.ward(2, 9, 1, k == 0 ? -1 : 1);
-            if (k > 1) x.nurse(1, 0);
-            if (k == 2) makeIll(x, 1);
-            table(x, 2, "AB");
-            law(x, "f2(1=1);e(1=1)");
-            String who = new String[] {"no nurse", "one not told", "one that is ill", "one that is well"}[k];
-            due(who + ": learnt", x.months(1), k == 3 ? 1 : 0);
-            due(who + ": strength", x.gustIs(0, 0), k == 3 ? 42 : 40);
-            due(who + ": the next lesson", x.wardIs(2, 5), 1);
+            x = wardWith(k);
+            due(who[k] + ": learnt", x.months(1), k == 3 ? 1 : 0);
+            due(who[k] + ": strength", x.gustIs(0, 0), k == 3 ? 42 : 40);
+        }
+        says(13, "(its TIMETABLE goes on all the same).");
+        for (int k = 0; k < 4; k++) {
+            x = wardWith(k);
+            x.months(1);
+            due(who[k] + ": the next lesson", x.wardIs(2, 5), 1);
         }
         foodAndLessons();
+    }
+
+    /** Ward 2 with a gust, food and lessons, and 0 no nurse, 1 one that is not told, 2 one that is ill, 3 one that is well. */
+    private static GustHome wardWith(int nurse) {
+        GustHome x = oneGust(40);
+        x.ward(2, 9, 1, nurse == 0 ? -1 : 1);
+        if (nurse > 1) x.nurse(1, 0);
+        if (nurse == 2) makeIll(x, 1);
+        table(x, 2, "AB");
+        law(x, "f2(1=1);e(1=1)");
+        return x;
     }
 
     /** Nurse k of ward 2 falls ill there in a month; its gust stays as it was. */
@@ -723,13 +796,16 @@ public final class TermsBySentence {
         law(x, "x(1=1)");
         x.months(1);
         due("three twos in ward 0", x.count(2), 3);
+        says(13, "TEMPER of both one more (9 at most).");
         int[] then = {2, 9, 9, 9};
         for (int g = 0; g < 4; g++) due("temper of " + g, x.gustIs(g, 2), then[g]);
+        says(13, "(each two asked when they come)");
         x = new GustHome();
         for (int g = 0; g < 3; g++) x.gust(g, 10 * g, 0, 0, 0);
         law(x, "x(s=0&o=10);x(s=10&o=20&t=1);x(s=20&o=0&t=1)");
         x.months(1);
         due("0 and 1, then 1 and 2 by it, not 0 and 2", x.count(2), 2);
+        says(13, "(4) Each two GUSTS in one WARD, by numbers");
         x = new GustHome();
         for (int g = 0; g < 12; g++) x.gust(g, g, 0, 5, 0);
         law(x, "x(1=1)");
@@ -965,15 +1041,21 @@ public final class TermsBySentence {
         due("both with the great one", x.leaving(3, 1), 3);
         x.gust(1, 50, 0, 0, 7);
         due("one has no quarter: both stay", x.leaving(3, 0), 4);
-        says(21, "so that most go; of like ones most STRENGTH; of like ones the least row (by GUSTS the WIND; 4: it stays).");
+        says(21, "so that most go;");
         x = leavers(3, 99, 1, 1);
         x.wind(2, 3, 99);
         due("two weak ones, not the strong one", x.leaving(7, 20), 2);
         due("the strong one stays", x.leaving(7, 0), 4);
+        says(21, "of like ones most STRENGTH;");
         x = leavers(3, 30, 60, 50);
         x.wind(2, 3, 60);
         due("the strongest of three", x.leaving(7, 1), 2);
         due("its strength", x.leaving(7, 21), 60);
+        x = leavers(3, 10, 11);
+        x.wind(2, 3, 11);
+        due("the stronger one of two", x.leaving(3, 1), 2);
+        due("its strength", x.leaving(3, 21), 11);
+        says(21, "of like ones the least row (by GUSTS the WIND; 4: it stays).");
         x = leavers(3, 60, 60, 60);
         x.wind(2, 3, 60);
         due("of like ones the first", x.leaving(7, 0), 2);
@@ -1014,42 +1096,51 @@ public final class TermsBySentence {
         DOC.none("asked", 0, 1023, a -> gusts(1).from(0, a, 0));
         x.home(0, 0);
         due("none fits", x.from(0, 1023, 0), 0);
-        says(24, "which HABIT that was not asked tells most (the greater part of HOMES with it, without it is smallest; "
-            + "of like ones the lowest; if it tells nothing: none).");
+        says(24, "if it tells nothing: none).");
         x = gusts(1);
         due("no home", x.from(0, 0, 1), -2);
         x.home(0, 1023);
         due("one home", x.from(0, 0, 1), -2);
         x.home(1, 1023);
         due("two like homes", x.from(0, 0, 1), -2);
+        says(24, "which HABIT that was not asked tells most");
         x.home(1, 511);
         due("one habit apart", x.from(0, 0, 1), 9);
         due("that was asked", x.from(0, 512, 1), -2);
-        x.home(1, 0);
-        due("all apart: the lowest", x.from(0, 0, 1), 0);
+        due("all asked", x.from(0, 1023, 1), -2);
+        says(24, "(the greater part of HOMES with it, without it is smallest;");
         x.home(0, 7);
         x.home(1, 6);
         x.home(2, 4);
         x.home(3, 0);
         due("1 and 3, 2 and 2, 3 and 1", x.from(0, 0, 1), 1);
+        says(24, "of like ones the lowest;");
         x.home(3, 6);
-        due("1 and 3, 3 and 1: the lowest", x.from(0, 0, 1), 0);
-        due("all asked", x.from(0, 1023, 1), -2);
-        says(25, "TAUGHT: HABITS (as bits) that a GUST is to have: the fewest lessons (with those that they NEED), "
-            + "in the order in which each has what it NEEDS, the least row of these; -2: it can't be (they NEED each other).");
-        x = gusts(1);
+        due("1 and 3, 3 and 1", x.from(0, 0, 1), 0);
+        x.home(0, 0);
+        for (int k = 1; k < 4; k++) x.home(k, 1023);
+        due("ten alike", x.from(0, 0, 1), 0);
+        lessonsInOrder();
+    }
+
+    private static void lessonsInOrder() {
+        says(25, "TAUGHT: HABITS (as bits) that a GUST is to have: the fewest lessons (with those that they NEED),");
+        GustHome x = gusts(1);
         DOC.none("habits", 0, 1023, h -> gusts(1).taught(0, h, 20));
         due("none wanted", x.taught(0, 0, 20), 0);
         due("all ten", x.taught(0, 1023, 20), 10);
-        for (int k = 0; k < 10; k++) due("place " + k, x.taught(0, 1023, k), k);
         x.needs(0, 512);
         x.needs(9, 16);
-        int[] row = {3, 4, 9, 0};
-        for (int k = 0; k < 4; k++) due("with needs, place " + k, x.taught(0, 9, k), row[k]);
+        due("two, and two that they need", x.taught(0, 9, 20), 4);
         x.habit(0, 9, true);
         due("what it has is needed no more", x.taught(0, 9, 20), 2);
         due("what it has and is to have", x.taught(0, 512, 20), 0);
         x.habit(0, 9, false);
+        says(25, "in the order in which each has what it NEEDS, the least row of these;");
+        int[] row = {3, 4, 9, 0};
+        for (int k = 0; k < 4; k++) due("with needs, place " + k, x.taught(0, 9, k), row[k]);
+        for (int k = 0; k < 10; k++) due("without needs, place " + k, gusts(1).taught(0, 1023, k), k);
+        says(25, "-2: it can't be (they NEED each other).");
         x.needs(4, 1);
         due("a ring", x.taught(0, 16, 20), -2);
         due("a ring among others", x.taught(0, 1023, 20), -2);
@@ -1077,6 +1168,8 @@ public final class TermsBySentence {
         says(27, "a HOUSE likes those best that have most of the HABITS it wants, of like ones the stronger, of like ones the lower number,");
         x = gusts(99, 50, 50, 0);
         x.house(0, 0, 3);
+        due("the stronger by one", stronger(50, 51).placed(3, 1), 0);
+        due("the stronger by one", stronger(51, 50).placed(3, 0), 0);
         due("the strongest", x.placed(15, 0), 0);
         due("of like ones the lower number", x.placed(6, 1), 0);
         due("the weaker one of two", x.placed(10, 3), -2);
@@ -1087,26 +1180,39 @@ public final class TermsBySentence {
         due("the one with two", x.placed(15, 2), 0);
         for (int h = 2; h < 10; h++) x.habit(3, h, true);
         due("habits that are not wanted", x.placed(15, 3), -2);
-        says(27, "and keeps the one it likes best of those that have asked: where each is when nobody asks any more (a GUST that no HOUSE keeps: nowhere).");
+        says(27, "and keeps the one it likes best of those that have asked: where each is when nobody asks any more");
         x = gusts(10, 20, 30);
         x.house(0, 90, 0);
         x.house(1, 80, 1);
         x.habit(2, 0, true);
         due("kept by the first", x.placed(7, 2), 0);
         due("sent on to the second", x.placed(7, 1), 1);
-        due("nowhere", x.placed(7, 0), -2);
         x.habit(0, 0, true);
         due("sent on, and kept by the second", x.placed(7, 0), 1);
-        due("nowhere then", x.placed(7, 1), -2);
-        says(28, "FAIR: how many twos (a GUST of these, a told HOUSE) there are of which each would rather have the other one than what it has in a told row of HOUSES "
-            + "(what a GUST, a HOUSE has rather than nothing: anything).");
-        int[][] rows = {{1, 255, 0}, {255, 1, 0}, {0, 1, 255}, {255, 255, 255}, {1, 0, 255}, {255, 255, 0}};
+        says(27, "(a GUST that no HOUSE keeps: nowhere).");
+        due("asked both", x.placed(7, 1), -2);
+        due("no house", gusts(1).placed(1, 0), -2);
         // house 0 likes 2, 1, 0; house 1 likes 2, 0, 1; each likes house 0 better
-        int[] twos = {0, 1, 3, 6, 2, 2};
-        for (int k = 0; k < rows.length; k++) {
-            put(x, rows[k]);
-            due("row " + java.util.Arrays.toString(rows[k]), x.fair(7), twos[k]);
-        }
+        says(28, "FAIR: how many twos (a GUST of these, a told HOUSE) there are of which each would rather have the other one than what it has in a told row of HOUSES");
+        twosOf(x, 0, 1, 255, 0);
+        twosOf(x, 1, 255, 1, 0);
+        twosOf(x, 3, 0, 1, 255);
+        twosOf(x, 2, 1, 0, 255);
+        says(28, "(what a GUST, a HOUSE has rather than nothing: anything).");
+        twosOf(x, 6, 255, 255, 255);
+        twosOf(x, 2, 255, 255, 0);
+        twosOf(x, 3, 255, 255, 1);
+    }
+    private static void twosOf(GustHome x, int twos, int... row) {
+        put(x, row);
+        due("row " + java.util.Arrays.toString(row), x.fair(7), twos);
+    }
+
+    /** Two gusts and a house that wants nothing. */
+    private static GustHome stronger(int one, int other) {
+        GustHome x = gusts(one, other);
+        x.house(0, 0, 0);
+        return x;
     }
 
     private static int escape(int n, int speed, int hour, int what, int... bytes) {
@@ -1255,7 +1361,7 @@ public final class TermsBySentence {
         x.months(2);
         String before = Texts.seen(x);
         due("kept", x.keep(), 2);
-        x.gust(3, 1, 1, 1, 1);
+        x.gust(3, 1, 1, 1, 9);
         x.gust(0, 1, 1, 1, 1);
         x.name(8, 4);
         x.nurse(2, 1);
@@ -1280,13 +1386,15 @@ public final class TermsBySentence {
         String[] newer = {"ABC", "ABCD", "DEF", "DE", "D"};
         int[] lesson = {2, 2, 5, 3, 3};
         for (int k = 0; k < newer.length; k++) {
-            x = new GustHome();
-            table(x, 5, "ABC");
-            x.months(2);
-            x.keep();
-            table(x, 5, newer[k]);
-            x.undo();
-            due("place 2 in " + newer[k], x.wardIs(5, 5), lesson[k]);
+            for (int w = 0; w < 6; w++) {
+                x = new GustHome();
+                table(x, w, "ABC");
+                x.months(2);
+                x.keep();
+                table(x, w, newer[k]);
+                x.undo();
+                due("place 2 in " + newer[k] + " of ward " + w, x.wardIs(w, 5), lesson[k]);
+            }
         }
         x = new GustHome();
         x.keep();
