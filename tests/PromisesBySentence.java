@@ -244,6 +244,8 @@ public final class PromisesBySentence {
         due("toys by the one in place", two.tried(1, 1), 8);
         for (String t : new String[] {"x(1=2);x(1=1)", "b1(1=1)", "b1+1(1=1)"}) law(two, t);
         due("nothing is left of a longer one", two.quarrel(0, 1), 0);
+        for (String t : new String[] {"b1(1=2);b4+5(1=1)", "x(1=1)", "f1(1=2|1=2|1=1)"}) law(two, t);
+        due("nothing is left of a longer one", two.tried(1, 1), 0);
         due("16", law(x, Texts.times(16, "e(1=1)", ";")), 16);
         due("240 bytes", law(x, "f" + Texts.times(116, "1+", "") + "12(1=1)"), 1);
         due("one byte", law(x, "f"), -1001);

@@ -243,8 +243,9 @@ public final class TermsBySentence {
         due("nothing behind an &", law("x(1=1&)"), -1006);
         due("nothing ahead of an &", law("x(&1=1)"), -1002);
         says(10, "a TEST: !TEST, (C), or E, one of < > =, and E.");
-        String[] c = {"1<2", "2<2", "3<2", "1>2", "2>2", "3>2", "1=2", "2=2", "!2=2", "!!2=2", "!1=2&1=2", "(1=2|2=2)&2=2", "(1=2)", "!(1=2|2=2)", "!(1=2)&!(1=2)"};
-        int[] holds = {1, 0, 0, 0, 0, 1, 0, 1, 0, 1, 0, 1, 0, 0, 1};
+        String[] c = {"1<2", "2<2", "3<2", "1>2", "2>2", "3>2", "1=2", "2=2", "!2=2", "!!2=2", "!1<2", "!3>2", "!2<2", "!2>2", "!1=2&1=2", "(1=2|2=2)&2=2",
+            "(1=2)", "!(1=2|2=2)", "!(1=2)&!(1=2)"};
+        int[] holds = {1, 0, 0, 0, 0, 1, 0, 1, 0, 1, 0, 0, 1, 1, 0, 1, 0, 0, 1};
         for (int k = 0; k < c.length; k++) due(c[k], asks(c[k]), holds[k]);
         String[] wrong = {"x()", "x(!)", "x(1)", "x(1=)", "x(=1)", "x(1<=1)", "x(1=1=1)", "x((1=1)=1)", "x(1=!1)", "x(!(1=1)!(1=1))", "x((1=1)"};
         int[] places = {2, 3, 3, 4, 2, 4, 5, 7, 4, 8, 7};
@@ -260,6 +261,8 @@ public final class TermsBySentence {
         says(10, "a TERM: FACTORS with one of * / % between two;");
         due("2*3*3", broken("2*3*3"), 18);
         due("17/3", broken("17/3"), 5);
+        due("7/1", broken("7/1"), 7);
+        due("7%1", broken("7%1"), 0);
         due("17%6", broken("17%6"), 5);
         due("+ behind *", broken("2+3*4"), 14);
         due("- behind /", broken("9-8/4"), 7);
@@ -456,6 +459,11 @@ public final class TermsBySentence {
             due("the end behind " + n, law(whole.substring(0, n)), fine ? 1 : -1000 - n);
         }
         due("whole", law(whole), 2);
+        for (int n = 1; n < whole.length(); n++) {
+            GustHome x = new GustHome();
+            Texts.put(x, whole);
+            due("the end behind " + n + ", though the tape goes on", x.law(n), n == whole.indexOf(';') ? 1 : -1000 - n);
+        }
         due("0", law("f1(1=1)\u0000"), -1007);
         due("255", law("f\u00ff(1=1)"), -1001);
         due("128 + s", law("f\u00f3(1=1)"), -1001);
@@ -551,6 +559,9 @@ public final class TermsBySentence {
         for (int n = 1; n < whole.length(); n++) {
             boolean fine = n == whole.indexOf(';');
             due("the end behind " + n, rules(whole.substring(0, n)), fine ? 1 : -1000 - n);
+            x = new GustHome();
+            Texts.put(x, whole);
+            due("the end behind " + n + ", though the tape goes on", x.rules(n), fine ? 1 : -1000 - n);
         }
     }
 
@@ -619,6 +630,9 @@ public final class TermsBySentence {
             boolean fine = n == 1 || n == 11;
             int months = n == 1 ? 1 : 17;
             due("the end behind " + n, table(whole.substring(0, n)), fine ? months : -1000 - n);
+            GustHome x = new GustHome();
+            Texts.put(x, whole);
+            due("the end behind " + n + ", though the tape goes on", x.timetable(0, n), fine ? months : -1000 - n);
         }
         due("whole", table(whole), 18);
         String[] wrong = {")", "A)", "(A))", "A B", "A;", "A\u0000", "\u00c1", "(A2"};
@@ -1051,10 +1065,15 @@ public final class TermsBySentence {
         x.wind(2, 3, 60);
         due("the strongest of three", x.leaving(7, 1), 2);
         due("its strength", x.leaving(7, 21), 60);
-        x = leavers(3, 10, 11);
+        x = leavers(3, 10, 11, 0, 0, 0, 99);
         x.wind(2, 3, 11);
+        due("four of six", x.leaving(63, 20), 4);
         due("the stronger one of two", x.leaving(3, 1), 2);
         due("its strength", x.leaving(3, 21), 11);
+        x.gust(1, 9, 0, 0, 1);
+        x.name(1, 3);
+        due("the stronger one of two is the first", x.leaving(3, 0), 2);
+        due("its strength", x.leaving(3, 21), 10);
         says(21, "of like ones the least row (by GUSTS the WIND; 4: it stays).");
         x = leavers(3, 60, 60, 60);
         x.wind(2, 3, 60);
@@ -1170,6 +1189,18 @@ public final class TermsBySentence {
         x.house(0, 0, 3);
         due("the stronger by one", stronger(50, 51).placed(3, 1), 0);
         due("the stronger by one", stronger(51, 50).placed(3, 0), 0);
+        GustHome y = stronger(10, 20);
+        y.house(1, 0, 0);
+        due("the first gust in the second house", y.placed(3, 0), 1);
+        due("the second gust in the first house", y.placed(3, 1), 0);
+        for (int by = -1; by < 2; by++) {
+            y = stronger(50, 50 + by);
+            put(y, 255, 0);
+            due("likes 50 rather than " + (50 + by), y.fair(3), by < 1 ? 1 : 0);
+            y = stronger(50 + by, 50);
+            put(y, 0, 255);
+            due("likes 50 rather than a lower one of " + (50 + by), y.fair(3), by < 0 ? 1 : 0);
+        }
         due("the strongest", x.placed(15, 0), 0);
         due("of like ones the lower number", x.placed(6, 1), 0);
         due("the weaker one of two", x.placed(10, 3), -2);
@@ -1310,6 +1341,9 @@ public final class TermsBySentence {
         for (int k = 0; k < 4; k++) due("four, place " + k, x.round(15, k), row[k]);
         law(x, "x(s=0&o=3)");
         due("the last is beside the first", x.round(15, 3), 2);
+        x.ward(1, 0, 0, -1);
+        due("after another plan", x.housed(15, 6, 0), 2);
+        due("the lowest is first", x.round(15, 0), 0);
         law(x, "x(1=1)");
         due("all quarrel", x.round(255, 20), 0);
         due("no first row", x.round(255, 0), -2);
