@@ -34,6 +34,7 @@ public final class FaceAndRoom {
 
     public static void main(String[] args) throws Exception {
         face();
+        faceOfDocument();
         language();
         oddArguments();
         room();
@@ -78,6 +79,22 @@ public final class FaceAndRoom {
                 must(!m.isSynthetic(), "nothing but plain methods: " + m);
             }
         }
+    }
+
+    /** "The public face" of the document has these methods, one constant, one constructor, and nothing else. */
+    private static void faceOfDocument() throws Exception {
+        Path doc = Path.of("../shared/DOC.md");
+        if (!Files.exists(doc)) {
+            System.out.println("no document at " + doc.toAbsolutePath() + ": its face is not looked at");
+            return;
+        }
+        TreeSet<String> told = new TreeSet<>();
+        Matcher lines = Pattern.compile("(?m)^    public ([^;]+);$").matcher(Files.readString(doc, StandardCharsets.UTF_8));
+        while (lines.find()) told.add(lines.group(1).replaceAll("(int|boolean) \\w+(?=[,)])", "$1").replace(", ", ","));
+        TreeSet<String> due = new TreeSet<>(Arrays.asList(FACE));
+        due.add("static final int NONE = -1");
+        due.add("GustHome()");
+        must(told.equals(due), "the face of the document: " + told);
     }
 
     private static void language() throws Exception {
